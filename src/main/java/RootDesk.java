@@ -319,13 +319,6 @@ public final class RootDesk {
             }
         }
 
-        void takeWord(int word) {
-            takeByte(word >>> 24);
-            takeByte(word >>> 16);
-            takeByte(word >>> 8);
-            takeByte(word);
-        }
-
         void takeId(int[] row, int at) {
             if (at < 0 || at + ID_WORDS > row.length) {
                 return;
@@ -333,6 +326,13 @@ public final class RootDesk {
             for (int w = 0; w < ID_WORDS; w++) {
                 takeWord(row[at + w]);
             }
+        }
+
+        private void takeWord(int word) {
+            takeByte(word >>> 24);
+            takeByte(word >>> 16);
+            takeByte(word >>> 8);
+            takeByte(word);
         }
 
         void finishInto(int[] row, int at) {
@@ -353,13 +353,14 @@ public final class RootDesk {
         }
 
         private void pad() {
-            int bits = 8 * length;
+            long bits = 8L * length;
             takeByte(0x80);
             for (int i = 0; i < BLOCK_BYTES && length % BLOCK_BYTES != LENGTH_AT; i++) {
                 takeByte(0);
             }
-            takeWord(0);
-            takeWord(bits);
+            for (int shift = 56; shift >= 0; shift -= 8) {
+                takeByte((int) (bits >>> shift));
+            }
         }
 
         private void fillSchedule(int from) {
