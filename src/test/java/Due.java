@@ -1,16 +1,23 @@
 /** Compares answers with those that are due, prints the wrong ones and ends the test with 1 if there was one. */
 final class Due {
     private static final int SHOWN = 40;
+    private String sentence = "";
+    private int askedBySentence = 1;
     private int asked;
     private int wrong;
 
+    /** The words of the document by which the answers from here on are due. */
+    void by(String words) {
+        endSentence();
+        sentence = words;
+        askedBySentence = 0;
+    }
+
     void is(String call, long got, long want) {
         asked++;
+        askedBySentence++;
         if (got != want) {
-            wrong++;
-            if (wrong <= SHOWN) {
-                System.out.println(call + " answered " + got + ", due is " + want);
-            }
+            tellWrong(call + " answered " + got + ", due is " + want);
         }
     }
 
@@ -19,9 +26,23 @@ final class Due {
     }
 
     void end() {
+        endSentence();
         System.out.println(asked + " answers, " + wrong + " not as due");
         if (wrong != 0 || asked == 0) {
             System.exit(1);
+        }
+    }
+
+    private void endSentence() {
+        if (askedBySentence == 0) {
+            tellWrong("nothing was asked");
+        }
+    }
+
+    private void tellWrong(String what) {
+        wrong++;
+        if (wrong <= SHOWN) {
+            System.out.println(what + (sentence.isEmpty() ? "" : " by \"" + sentence + "\""));
         }
     }
 }

@@ -1,12 +1,9 @@
-import java.io.ByteArrayOutputStream;
 import java.nio.ByteBuffer;
-import java.security.MessageDigest;
-import java.security.NoSuchAlgorithmException;
 import java.util.ArrayList;
 import java.util.Arrays;
 import java.util.List;
 
-/** The document's words in their slowest form, over the Java library's SHA-256: what RootDesk is compared with. */
+/** The document's words in their slowest form: what RootDesk is compared with. */
 final class PlainDesk {
     private byte[] tape = new byte[0];
     private final List<byte[]> leaves = new ArrayList<>();
@@ -18,12 +15,12 @@ final class PlainDesk {
             return false;
         }
         byte[] eight = ByteBuffer.allocate(8).putLong(v).array();
-        tape = together(tape, Arrays.copyOfRange(eight, 8 - n, 8));
+        tape = Sha.together(tape, Arrays.copyOfRange(eight, 8 - n, 8));
         return true;
     }
 
     long hash(int k) {
-        return part(sha(tape), k);
+        return part(Sha.of(tape), k);
     }
 
     int add() {
@@ -75,9 +72,9 @@ final class PlainDesk {
         if (!has(i)) {
             return -1;
         }
-        byte[] id = leafId(tape);
+        byte[] id = Sha.leafId(tape);
         for (Step step : steps(i)) {
-            id = step.left() ? pairId(step.id(), id) : pairId(id, step.id());
+            id = step.left() ? Sha.pairId(step.id(), id) : Sha.pairId(id, step.id());
         }
         return Arrays.equals(id, rootId()) ? 1 : 0;
     }
@@ -104,13 +101,13 @@ final class PlainDesk {
         List<List<byte[]>> levels = new ArrayList<>();
         List<byte[]> level = new ArrayList<>();
         for (byte[] leaf : leaves) {
-            level.add(leafId(leaf));
+            level.add(Sha.leafId(leaf));
         }
         levels.add(level);
         while (level.size() > 1) {
             List<byte[]> next = new ArrayList<>();
             for (int a = 0; a < level.size(); a += 2) {
-                next.add(a + 1 < level.size() ? pairId(level.get(a), level.get(a + 1)) : level.get(a));
+                next.add(a + 1 < level.size() ? Sha.pairId(level.get(a), level.get(a + 1)) : level.get(a));
             }
             levels.add(next);
             level = next;
@@ -140,31 +137,7 @@ final class PlainDesk {
         return steps;
     }
 
-    private static byte[] leafId(byte[] leaf) {
-        return sha(together(new byte[] {0}, leaf));
-    }
-
-    private static byte[] pairId(byte[] first, byte[] second) {
-        return sha(together(new byte[] {1}, first, second));
-    }
-
     private static long part(byte[] id, int k) {
-        return k < 0 || k > 3 ? 0 : ByteBuffer.wrap(id).getLong(8 * k);
-    }
-
-    private static byte[] together(byte[]... rows) {
-        ByteArrayOutputStream all = new ByteArrayOutputStream();
-        for (byte[] row : rows) {
-            all.writeBytes(row);
-        }
-        return all.toByteArray();
-    }
-
-    private static byte[] sha(byte[] row) {
-        try {
-            return MessageDigest.getInstance("SHA-256").digest(row);
-        } catch (NoSuchAlgorithmException e) {
-            throw new IllegalStateException(e);
-        }
+        return k < 0 || k > 3 ? 0 : Sha.part(id, k);
     }
 }

@@ -9,18 +9,14 @@ public final class RandomRunsTest {
         1 << 29, 1 << 30, Integer.MAX_VALUE - 1, Integer.MAX_VALUE
     };
 
-    private final Due due;
     private final Random chance;
-    private final String run;
     private final int growth;
-    private final RootDesk desk = new RootDesk();
-    private final PlainDesk plain = new PlainDesk();
+    private final Twin twin;
 
     private RandomRunsTest(Due due, int seed) {
-        this.due = due;
         this.chance = new Random(seed);
-        this.run = "run " + seed + " ";
         this.growth = seed % 4;
+        this.twin = new Twin(due, "run " + seed);
     }
 
     public static void main(String[] args) {
@@ -39,12 +35,12 @@ public final class RandomRunsTest {
         int addsBelow = new int[] {12, 25, 45, 70}[growth];
         if (kind < addsBelow) {
             if (chance.nextInt(3) > 0) {
-                due.is(run + "add()", desk.add(), plain.add());
+                twin.add();
             } else {
                 put();
             }
         } else if (kind < addsBelow + 6) {
-            due.is(run + "drop()", desk.drop(), plain.drop());
+            twin.drop();
         } else {
             otherCall();
         }
@@ -55,26 +51,25 @@ public final class RandomRunsTest {
         int j = number(8);
         int k = number(4);
         switch (chance.nextInt(11)) {
-            case 0 -> due.is(run + "hash(" + k + ")", desk.hash(k), plain.hash(k));
-            case 1 -> due.is(run + "change(" + i + ")", desk.change(i), plain.change(i));
-            case 2 -> due.is(run + "root(" + k + ")", desk.root(k), plain.root(k));
-            case 3 -> due.is(run + "way(" + i + ")", desk.way(i), plain.way(i));
-            case 4, 5 -> due.is(run + "beside(" + i + ", " + j + ", " + k + ")", desk.beside(i, j, k), plain.beside(i, j, k));
-            case 6 -> due.is(run + "isLeft(" + i + ", " + j + ")", desk.isLeft(i, j), plain.isLeft(i, j));
-            case 7 -> due.is(run + "proves(" + i + ")", desk.proves(i), plain.proves(i));
-            case 8 -> due.is(run + "count(" + k + ")", desk.count(k), plain.count(k));
+            case 0 -> twin.hash(k);
+            case 1 -> twin.change(i);
+            case 2 -> twin.root(k);
+            case 3 -> twin.way(i);
+            case 4, 5 -> twin.beside(i, j, k);
+            case 6 -> twin.isLeft(i, j);
+            case 7 -> twin.proves(i);
+            case 8 -> twin.count(k);
             default -> put();
         }
     }
 
     private void put() {
         long v = chance.nextInt(3) == 0 ? chance.nextInt(3) : chance.nextLong();
-        int n = chance.nextInt(2) == 0 ? 1 + chance.nextInt(2) : number(9);
-        due.is(run + "put(" + v + ", " + n + ")", desk.put(v, n), plain.put(v, n));
+        twin.put(v, chance.nextInt(2) == 0 ? 1 + chance.nextInt(2) : number(9));
     }
 
     private int leafNumber() {
-        int leaves = plain.count(1);
+        int leaves = twin.leaves();
         return chance.nextInt(4) == 0 ? leaves - 2 + chance.nextInt(4) : number(leaves + 1);
     }
 
