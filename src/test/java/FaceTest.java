@@ -23,6 +23,7 @@ public final class FaceTest {
         fields(desk);
         for (Class<?> inside : desk.getDeclaredClasses()) {
             due.is(inside + " is static", Modifier.isStatic(inside.getModifiers()), true);
+            due.is(inside + " is open", inside.getModifiers() & (Modifier.PUBLIC | Modifier.PROTECTED), 0);
             staticFieldsAreFinal(inside);
         }
         due.end();

@@ -1,30 +1,38 @@
 import java.util.Random;
 
-/** Promises 1 to 12 at once: runs of 512 calls, made from a seed, against the plain desk. */
+/**
+ * Promises 1 to 12 at once: runs of 512 calls, made from a seed, against the plain desk. Two runs go in turns,
+ * since "All memory is the class's own": what one object does must not show in another.
+ */
 public final class RandomRunsTest {
     private static final int RUNS = 240;
     private static final int CALLS = 512;
+    private static final int[] ADDS_BELOW = {12, 25, 45, 70};
     private static final int[] ODD_NUMBERS = {
         Integer.MIN_VALUE, Integer.MIN_VALUE + 1, -101, -2, -1, 4, 5, 8, 9, 100, 101, 150, 202,
         1 << 29, 1 << 30, Integer.MAX_VALUE - 1, Integer.MAX_VALUE
     };
 
     private final Random chance;
-    private final int growth;
+    private final int addsBelow;
+    private final boolean longRows;
     private final Twin twin;
 
     private RandomRunsTest(Due due, int seed) {
         this.chance = new Random(seed);
-        this.growth = seed % 4;
+        this.addsBelow = ADDS_BELOW[seed % ADDS_BELOW.length];
+        this.longRows = seed % 5 == 0;
         this.twin = new Twin(due, "run " + seed);
     }
 
     public static void main(String[] args) {
         Due due = new Due();
-        for (int seed = 0; seed < RUNS; seed++) {
-            RandomRunsTest test = new RandomRunsTest(due, seed);
+        for (int seed = 0; seed < RUNS; seed += 2) {
+            RandomRunsTest one = new RandomRunsTest(due, seed);
+            RandomRunsTest other = new RandomRunsTest(due, seed + 1);
             for (int call = 0; call < CALLS; call++) {
-                test.oneCall();
+                one.oneCall();
+                other.oneCall();
             }
         }
         due.end();
@@ -32,8 +40,9 @@ public final class RandomRunsTest {
 
     private void oneCall() {
         int kind = chance.nextInt(100);
-        int addsBelow = new int[] {12, 25, 45, 70}[growth];
-        if (kind < addsBelow) {
+        if (longRows && chance.nextInt(5) > 0) {
+            twin.put(chance.nextLong(), 1 + chance.nextInt(8));
+        } else if (kind < addsBelow) {
             if (chance.nextInt(3) > 0) {
                 twin.add();
             } else {
